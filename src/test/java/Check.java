@@ -1,0 +1,55 @@
+import java.util.Objects;
+
+/** Compares answers with those that are due, prints each that differs, and ends with exit code 1 if one did. */
+final class Check {
+    static final String ARGUMENT = "throws.IllegalArgumentException";
+    static final String STATE = "throws.IllegalStateException";
+    static final String ARITHMETIC = "throws.ArithmeticException";
+
+    interface Call {
+        Object answer();
+    }
+
+    private int made = 0;
+    private int wrong = 0;
+
+    /** The answer as a text; an exception by its exact class, so that one of the machine's own is never taken for it. */
+    static String told(Call call) {
+        try {
+            return String.valueOf(call.answer());
+        } catch (RuntimeException e) {
+            return "throws." + e.getClass().getSimpleName();
+        }
+    }
+
+    void due(String what, Object want, Call call) {
+        same(what, String.valueOf(want), told(call));
+    }
+
+    void argument(String what, Call call) {
+        due(what, ARGUMENT, call);
+    }
+
+    void state(String what, Call call) {
+        due(what, STATE, call);
+    }
+
+    void arithmetic(String what, Call call) {
+        due(what, ARITHMETIC, call);
+    }
+
+    void same(String what, Object want, Object got) {
+        made++;
+        if (!Objects.equals(want, got)) {
+            wrong++;
+            System.out.println(what + " answered " + got + ", due is " + want);
+        }
+    }
+
+    void end() {
+        System.out.println(made + " answers looked at, " + wrong + " not as due");
+        if (wrong != 0 || made == 0) {
+            System.exit(1);
+        }
+    }
+}
