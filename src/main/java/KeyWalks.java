@@ -10,6 +10,8 @@ public final class KeyWalks {
     private static final int MOST_NUMBER = 99;
     private static final int MOST_TURN_NUMBER = 1000;
     private static final int MOST_SLACK = 100000;
+    /** No walk costs more than 40 * 12 * 200 * 99 + 39 * 8000, and a hundred times that is still an int. */
+    private static final int ABOVE_ALL_COSTS = 1000000000;
     private static final int FIRST_BASE = 10;
     private static final int FIRST_BY = 5;
     private static final int FIRST_OVER = 2;
@@ -201,7 +203,6 @@ public final class KeyWalks {
         if (next == 0) {
             throw new ArithmeticException("the next cost is 0");
         }
-        // No walk costs more than 40 * 12 * 200 * 99 + 39 * 8000, so a hundred times that is still an int.
         return 100 * (next - leastCost) / next;
     }
 
@@ -399,7 +400,7 @@ public final class KeyWalks {
             ways[at] = 1;
             return;
         }
-        int lowest = Integer.MAX_VALUE;
+        int lowest = ABOVE_ALL_COSTS;
         long many = 0;
         for (int to = 0; to < KEYS; to++) {
             int behind = at - key + KEYS + to;
@@ -493,7 +494,7 @@ public final class KeyWalks {
 
     /** Least cost of all slices ahead of this one, which is not slice 0, and of the turn into its key. */
     private int leastInto(int slice, int key) {
-        int lowest = Integer.MAX_VALUE;
+        int lowest = ABOVE_ALL_COSTS;
         for (int from = 0; from < KEYS; from++) {
             lowest = Math.min(lowest, heads[(slice - 1) * KEYS + from] + turns[from * KEYS + key]);
         }
@@ -506,7 +507,7 @@ public final class KeyWalks {
     }
 
     private int nextCost(int slice) {
-        int lowest = Integer.MAX_VALUE;
+        int lowest = ABOVE_ALL_COSTS;
         for (int key = 0; key < KEYS; key++) {
             if (key != firstKeys[slice]) {
                 lowest = Math.min(lowest, leastThrough(slice, key));
