@@ -12,6 +12,20 @@ final class Check {
 
     private int made = 0;
     private int wrong = 0;
+    private int sentences = 0;
+    private String ahead = "";
+
+    /** The test of one sentence of the document; a test that looks at nothing is no test. */
+    void sentence(String where, String words, Runnable test) {
+        int madeBefore = made;
+        sentences++;
+        ahead = where + " '" + words + "': ";
+        test.run();
+        if (made == madeBefore) {
+            same("answers looked at", "some", "none");
+        }
+        ahead = "";
+    }
 
     /** The answer as a text; an exception by its exact class, so that one of the machine's own is never taken for it. */
     static String told(Call call) {
@@ -44,12 +58,13 @@ final class Check {
         made++;
         if (!Objects.equals(want, got)) {
             wrong++;
-            System.out.println(what + " answered " + got + ", due is " + want);
+            System.out.println(ahead + what + " answered " + got + ", due is " + want);
         }
     }
 
     void end() {
-        System.out.println(made + " answers looked at, " + wrong + " not as due");
+        String of = sentences == 0 ? "" : " for " + sentences + " sentences";
+        System.out.println(made + " answers looked at" + of + ", " + wrong + " not as due");
         if (wrong != 0 || made == 0) {
             System.exit(1);
         }

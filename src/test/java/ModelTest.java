@@ -1,6 +1,7 @@
 /** Long runs of calls, right and wrong ones mixed, on an object and on the model side by side. */
 public final class ModelTest {
-    private static final int CALLS = 500;
+    /** As many as the document lets an object be used for. */
+    private static final int CALLS = 512;
     private static final Check check = new Check();
     private static long seed = 4711L;
 
@@ -127,7 +128,7 @@ public final class ModelTest {
         int key = some(0, 23);
         int slack = below(2) == 0 ? some(0, 30) : some(0, 100000);
         int nth = some(0, 4);
-        long i = someWalk(x.count());
+        long i = someWalk(m.count());
         switch (below(8)) {
             case 0:
                 check.due(when + " least", Check.told(() -> m.least()), () -> x.least());

@@ -31,37 +31,6 @@ public final class PromisesTest {
         check.end();
     }
 
-    /** A piece with so many silent slices. */
-    private static KeyWalks piece(int slices) {
-        KeyWalks x = new KeyWalks();
-        for (int s = 0; s < slices; s++) {
-            x.slice();
-        }
-        return x;
-    }
-
-    /** One slice for each row: pitch, weight, pitch, weight, .. */
-    private static KeyWalks sounding(int[]... rows) {
-        KeyWalks x = piece(rows.length);
-        for (int s = 0; s < rows.length; s++) {
-            for (int at = 0; at + 1 < rows[s].length; at += 2) {
-                x.note(s, rows[s][at], rows[s][at + 1]);
-            }
-        }
-        return x;
-    }
-
-    private static int[] row(int... numbers) {
-        return numbers;
-    }
-
-    /** Two slices that only one key each fits best, far enough apart in weight to be worth the turn. */
-    private static KeyWalks fromCToFSharp() {
-        int[] c = row(0, 50, 2, 20, 4, 40, 5, 20, 7, 40, 9, 20, 11, 20);
-        int[] fSharp = row(6, 50, 8, 20, 10, 40, 11, 20, 1, 40, 3, 20, 5, 20);
-        return sounding(c, c, fSharp, fSharp, c);
-    }
-
     /** The numbers of the profiles, read by setting each to what it was. */
     private static void profilesAre(String when, KeyWalks x, int[] major, int[] minor) {
         for (int step = 0; step < 12; step++) {
@@ -91,7 +60,7 @@ public final class PromisesTest {
 
     private static void newObject() {
         isNew("1 new:", new KeyWalks());
-        KeyWalks x = piece(3);
+        KeyWalks x = Pieces.silent(3);
         x.profile(0, 0, 99);
         x.costs(1, 2, 3);
         isNew("1 new beside another one:", new KeyWalks());
@@ -117,13 +86,13 @@ public final class PromisesTest {
         check.due("2 no weight is left", 0, () -> x.fit(1, 4));
         check.due("2 note begins at 0", 5, () -> x.note(1, 4, 5));
         check.due("2 clear again", 2, () -> x.clear());
-        KeyWalks full = piece(40);
+        KeyWalks full = Pieces.silent(40);
         check.due("2 clear of forty", 40, () -> full.clear());
         check.due("2 slice after forty", 0, () -> full.slice());
     }
 
     private static void profile() {
-        KeyWalks x = piece(1);
+        KeyWalks x = Pieces.silent(1);
         x.note(0, 0, 10);
         check.due("3 profile(0, 0, 7)", 5, () -> x.profile(0, 0, 7));
         check.due("3 profile is heard", 70, () -> x.fit(0, 0));
@@ -144,7 +113,7 @@ public final class PromisesTest {
         check.due("3 a throw changed nothing", 99, () -> x.profile(0, 0, 99));
         check.due("3 nor the other mode", 5, () -> x.profile(1, 0, 5));
         // A change of a profile is heard by what was asked before it.
-        KeyWalks y = sounding(row(0, 1));
+        KeyWalks y = Pieces.of("0:1");
         check.due("3 key before", 0, () -> y.key(0));
         y.profile(0, 0, 1);
         check.due("3 key behind", 12, () -> y.key(0));
@@ -166,7 +135,7 @@ public final class PromisesTest {
             check.argument("4 over " + bad, () -> x.costs(1, 1, bad));
         }
         numbersAre("4 a throw changed nothing:", x, 0, 1000, 1000, 1000);
-        KeyWalks y = piece(2);
+        KeyWalks y = Pieces.silent(2);
         check.due("4 count before", 24L, () -> y.count());
         y.costs(0, 0, 0);
         check.due("4 count behind", 576L, () -> y.count());
@@ -193,7 +162,7 @@ public final class PromisesTest {
     }
 
     private static void note() {
-        KeyWalks x = piece(2);
+        KeyWalks x = Pieces.silent(2);
         check.due("6 note", 1, () -> x.note(0, 0, 1));
         check.due("6 more of it", 120, () -> x.note(0, 0, 119));
         check.due("6 another pitch", 80, () -> x.note(0, 11, 80));
@@ -214,14 +183,14 @@ public final class PromisesTest {
         }
         check.due("6 wrong weights changed nothing", 3, () -> x.note(1, 1, 3));
         check.argument("6 no slice at all", () -> new KeyWalks().note(0, 0, 1));
-        KeyWalks y = piece(1);
+        KeyWalks y = Pieces.silent(1);
         check.due("6 count before", 24L, () -> y.count());
         y.note(0, 0, 1);
         check.due("6 count behind", 2L, () -> y.count());
     }
 
     private static void drop() {
-        KeyWalks x = sounding(row(0, 9), row(6, 200), row(1, 200));
+        KeyWalks x = Pieces.of("0:9", "6:200", "1:200");
         // C minor is three places from F sharp major: 27; C sharp major is one place on: 15.
         check.due("7 least of three", 42, () -> x.least());
         check.due("7 drop", 2, () -> x.drop());
@@ -236,14 +205,14 @@ public final class PromisesTest {
     }
 
     private static void fit() {
-        KeyWalks x = sounding(row(0, 4, 4, 2, 7, 2), row());
+        KeyWalks x = Pieces.of("0:4 4:2 7:2", "");
         check.due("8 C major", 32, () -> x.fit(0, 0));
         check.due("8 A minor", 18, () -> x.fit(0, 21));
         check.due("8 E minor", 28, () -> x.fit(0, 16));
         check.due("8 B minor", 12, () -> x.fit(0, 11 + 12));
         check.due("8 F sharp major", 0, () -> x.fit(0, 6));
         check.due("8 a silent slice", 0, () -> x.fit(1, 23));
-        KeyWalks most = piece(1);
+        KeyWalks most = Pieces.silent(1);
         for (int pitch = 0; pitch < 12; pitch++) {
             most.note(0, pitch, 200);
             most.profile(0, pitch, 99);
@@ -268,7 +237,7 @@ public final class PromisesTest {
     }
 
     private static void cost() {
-        KeyWalks x = sounding(row(0, 4, 4, 2, 7, 2), row());
+        KeyWalks x = Pieces.of("0:4 4:2 7:2", "");
         check.due("9 the best key", 0, () -> x.cost(0, 0));
         check.due("9 G major", 4, () -> x.cost(0, 7));
         check.due("9 A minor", 14, () -> x.cost(0, 21));
@@ -312,15 +281,15 @@ public final class PromisesTest {
 
     private static void least() {
         check.due("11 no slices", 0, () -> new KeyWalks().least());
-        check.due("11 silent ones", 0, () -> piece(40).least());
-        check.due("11 one slice", 0, () -> sounding(row(0, 200)).least());
-        KeyWalks x = fromCToFSharp();
+        check.due("11 silent ones", 0, () -> Pieces.silent(40).least());
+        check.due("11 one slice", 0, () -> Pieces.of("0:200").least());
+        KeyWalks x = Pieces.fromCToFSharp();
         check.due("11 two turns of 40", 80, () -> x.least());
         x.costs(10, 5, 1000);
         check.due("11 without a change of mode", 80, () -> x.least());
         x.costs(0, 0, 0);
         check.due("11 turns for nothing", 0, () -> x.least());
-        KeyWalks most = piece(40);
+        KeyWalks most = Pieces.silent(40);
         for (int s = 0; s < 40; s++) {
             most.note(s, s % 2 == 0 ? 0 : 6, 200);
         }
@@ -330,14 +299,14 @@ public final class PromisesTest {
     }
 
     private static void key() {
-        KeyWalks x = fromCToFSharp();
+        KeyWalks x = Pieces.fromCToFSharp();
         int[] keys = {0, 0, 6, 6, 0};
         for (int s = 0; s < 5; s++) {
             int at = s;
             check.due("12 key(" + s + ")", keys[s], () -> x.key(at));
         }
-        check.due("12 of several the first", 0, () -> piece(3).key(2));
-        KeyWalks free = sounding(row(0, 1), row(5, 1));
+        check.due("12 of several the first", 0, () -> Pieces.silent(3).key(2));
+        KeyWalks free = Pieces.of("0:1", "5:1");
         free.costs(0, 0, 0);
         check.due("12 major ahead of minor", 0, () -> free.key(0));
         check.due("12 in the last slice too", 5, () -> free.key(1));
@@ -349,7 +318,7 @@ public final class PromisesTest {
 
     private static void count() {
         check.due("13 no slices", 1L, () -> new KeyWalks().count());
-        check.due("13 silent ones", 24L, () -> piece(40).count());
+        check.due("13 silent ones", 24L, () -> Pieces.silent(40).count());
         KeyWalks x = new KeyWalks();
         x.costs(0, 0, 0);
         long many = 1;
@@ -359,14 +328,14 @@ public final class PromisesTest {
             check.due("13 free turns of " + n, many, () -> x.count());
         }
         // Turns cost nothing between the two keys of one place: twelve places, two keys in each slice.
-        KeyWalks pairs = piece(40);
+        KeyWalks pairs = Pieces.silent(40);
         pairs.costs(0, 1, 0);
         check.due("13 two keys a place", 12L << 40, () -> pairs.count());
-        check.due("13 one walk", 1L, () -> fromCToFSharp().count());
+        check.due("13 one walk", 1L, () -> Pieces.fromCToFSharp().count());
     }
 
     private static void pick() {
-        KeyWalks x = piece(2);
+        KeyWalks x = Pieces.silent(2);
         x.costs(0, 0, 0);
         for (int i = 0; i < 576; i += 5) {
             int at = i;
@@ -376,7 +345,7 @@ public final class PromisesTest {
         check.due("14 the last", 23, () -> x.pick(575, 0));
         check.due("14 one more", -1, () -> x.pick(576, 0));
         check.due("14 one more, slice 1", -1, () -> x.pick(576, 1));
-        KeyWalks full = piece(40);
+        KeyWalks full = Pieces.silent(40);
         full.costs(0, 0, 0);
         long rest = 999999999999999999L;
         for (int s = 39; s >= 0; s--) {
@@ -384,11 +353,11 @@ public final class PromisesTest {
             check.due("14 far walk, slice " + s, rest % 24, () -> full.pick(999999999999999999L, at));
             rest /= 24;
         }
-        KeyWalks thirteen = piece(13);
+        KeyWalks thirteen = Pieces.silent(13);
         thirteen.costs(0, 0, 0);
         check.due("14 the last of 24^13", 23, () -> thirteen.pick(876488338465357823L, 0));
         check.due("14 one more than 24^13", -1, () -> thirteen.pick(876488338465357824L, 0));
-        KeyWalks one = fromCToFSharp();
+        KeyWalks one = Pieces.fromCToFSharp();
         check.due("14 the only one", 6, () -> one.pick(0, 3));
         check.due("14 no second one", -1, () -> one.pick(1, 3));
         for (long bad : new long[] {Long.MIN_VALUE, -1, 1000000000000000000L, Long.MAX_VALUE}) {
@@ -402,17 +371,17 @@ public final class PromisesTest {
     }
 
     private static void through() {
-        KeyWalks x = fromCToFSharp();
+        KeyWalks x = Pieces.fromCToFSharp();
         check.due("15 a best one", 80, () -> x.through(2, 6));
         check.due("15 another best one", 80, () -> x.through(4, 0));
-        KeyWalks one = sounding(row(0, 4, 4, 2, 7, 2));
+        KeyWalks one = Pieces.of("0:4 4:2 7:2");
         for (int key = 0; key < 24; key++) {
             int at = key;
             check.due("15 of one slice " + key, one.cost(0, key), () -> one.through(0, at));
         }
-        KeyWalks silent = piece(3);
+        KeyWalks silent = Pieces.silent(3);
         check.due("15 silent slices", 0, () -> silent.through(1, 17));
-        KeyWalks two = sounding(row(0, 200), row());
+        KeyWalks two = Pieces.of("0:200", "");
         // Slice 0 is for nothing in C major and in C minor, whose place is three from that of C major.
         check.due("15 the turn behind", 12, () -> two.through(1, 21));
         check.due("15 the turn from the nearer one", 27, () -> two.through(1, 6));
@@ -421,7 +390,7 @@ public final class PromisesTest {
     }
 
     private static void near() {
-        KeyWalks x = sounding(row(0, 200), row());
+        KeyWalks x = Pieces.of("0:200", "");
         check.due("16 slack 0", 1 << 0 | 1 << 12, () -> x.near(0, 0));
         // Behind C major or C minor: the same key, the turn of 12 to the other key of its place, 15 to the next ones.
         check.due("16 slack 11, slice 1", 1 << 0 | 1 << 12, () -> x.near(1, 11));
@@ -431,7 +400,7 @@ public final class PromisesTest {
         int fifteen = twelve | 1 << 7 | 1 << 5 | 1 << 19 | 1 << 17;
         check.due("16 slack 15, slice 1", fifteen, () -> x.near(1, 15));
         check.due("16 all keys", 0xffffff, () -> x.near(0, 100000));
-        check.due("16 silent slices", 0xffffff, () -> piece(2).near(1, 0));
+        check.due("16 silent slices", 0xffffff, () -> Pieces.silent(2).near(1, 0));
         for (int bad : new int[] {LOW, -1, 100001, HIGH}) {
             check.argument("16 slack " + bad, () -> x.near(0, bad));
         }
@@ -442,27 +411,27 @@ public final class PromisesTest {
     }
 
     private static void sure() {
-        KeyWalks x = sounding(row(0, 4, 4, 2, 7, 2));
+        KeyWalks x = Pieces.of("0:4 4:2 7:2");
         check.due("17 the least is 0", 100, () -> x.sure(0));
-        KeyWalks three = sounding(row(0, 4, 4, 2, 7, 2), row(7, 3, 11, 2, 2, 2), row(2, 4, 6, 4, 9, 3));
+        KeyWalks three = Pieces.of("0:4 4:2 7:2", "7:3 11:2 2:2", "2:4 6:4 9:3");
         check.due("17 cut", 36, () -> three.sure(2));
-        check.due("17 two best ones", 0, () -> sounding(row(0, 9), row(6, 9)).sure(0));
-        check.arithmetic("17 the next is 0", () -> piece(2).sure(1));
-        check.arithmetic("17 the other mode too", () -> sounding(row(3, 200)).sure(0));
+        check.due("17 two best ones", 0, () -> Pieces.of("0:9", "6:9").sure(0));
+        check.arithmetic("17 the next is 0", () -> Pieces.silent(2).sure(1));
+        check.arithmetic("17 the other mode too", () -> Pieces.of("3:200").sure(0));
         for (int bad : new int[] {LOW, -1, 3, 40, HIGH}) {
             check.argument("17 slice " + bad, () -> three.sure(bad));
         }
-        check.argument("17 argument ahead of arithmetic", () -> piece(2).sure(2));
+        check.argument("17 argument ahead of arithmetic", () -> Pieces.silent(2).sure(2));
         check.argument("17 no slices", () -> new KeyWalks().sure(0));
     }
 
     private static void change() {
-        KeyWalks x = fromCToFSharp();
+        KeyWalks x = Pieces.fromCToFSharp();
         check.due("18 the first", 2, () -> x.change(0));
         check.due("18 the second", 4, () -> x.change(1));
         check.due("18 no third", -1, () -> x.change(2));
         check.due("18 far off", -1, () -> x.change(HIGH));
-        check.due("18 one slice", -1, () -> piece(1).change(0));
+        check.due("18 one slice", -1, () -> Pieces.silent(1).change(0));
         check.due("18 no slices", -1, () -> new KeyWalks().change(0));
         check.argument("18 below 0", () -> x.change(-1));
         check.argument("18 far below 0", () -> x.change(LOW));
@@ -470,7 +439,7 @@ public final class PromisesTest {
     }
 
     private static void pivot() {
-        KeyWalks x = sounding(row(0, 1, 4, 1, 7, 1), row(6, 1), row());
+        KeyWalks x = Pieces.of("0:1 4:1 7:1", "6:1", "");
         check.due("19 C and G major", true, () -> x.pivot(0, 0, 7));
         check.due("19 C and A minor, whose step 10 is none", false, () -> x.pivot(0, 0, 21));
         check.due("19 C and F major", true, () -> x.pivot(0, 5, 0));
@@ -493,14 +462,14 @@ public final class PromisesTest {
     }
 
     private static void whole() {
-        KeyWalks x = fromCToFSharp();
+        KeyWalks x = Pieces.fromCToFSharp();
         check.due("20 first two", 0, () -> x.whole(0, 1));
         check.due("20 middle two", 6, () -> x.whole(2, 3));
         check.due("20 one of them", 6, () -> x.whole(3, 3));
         check.due("20 all", 0, () -> x.whole(0, 4));
-        check.due("20 silent ones", 0, () -> piece(4).whole(1, 3));
-        check.due("20 of several the least", 3, () -> sounding(row(3, 200)).whole(0, 0));
-        KeyWalks minor = sounding(row(9, 20, 0, 9, 8, 9), row(9, 1));
+        check.due("20 silent ones", 0, () -> Pieces.silent(4).whole(1, 3));
+        check.due("20 of several the least", 3, () -> Pieces.of("3:200").whole(0, 0));
+        KeyWalks minor = Pieces.of("9:20 0:9 8:9", "9:1");
         check.due("20 minor", 21, () -> minor.whole(0, 1));
         for (int bad : new int[] {LOW, -1, 5, 40, HIGH}) {
             check.argument("20 first " + bad, () -> x.whole(bad, 4));
@@ -512,14 +481,14 @@ public final class PromisesTest {
     }
 
     private static void of() {
-        KeyWalks x = fromCToFSharp();
+        KeyWalks x = Pieces.fromCToFSharp();
         x.costs(20, 4, 6);
         numbersAre("21", x, 5, 20, 4, 6);
         check.due("21 changes", 2, () -> x.of(4));
         x.drop();
         check.due("21 changes behind a drop", 1, () -> x.of(4));
         check.due("21 slices behind a drop", 4, () -> x.of(0));
-        check.due("21 no changes", 0, () -> piece(3).of(4));
+        check.due("21 no changes", 0, () -> Pieces.silent(3).of(4));
         for (int bad : new int[] {LOW, -1, 5, HIGH}) {
             check.argument("21 of(" + bad + ")", () -> x.of(bad));
         }
