@@ -49,11 +49,25 @@ final class Bounds {
         check.due(what, due, () -> call.answer(fresh));
         alike(what + ", then", maker.make(), fresh);
         // What an object has worked out before the call must outlive it as well.
-        KeyWalks asked = maker.make();
-        asked.least();
-        Check.told(() -> asked.through(0, 0));
+        KeyWalks asked = asked(maker);
         check.due(what + " of one that was asked", due, () -> call.answer(asked));
         alike(what + " of one that was asked, then", maker.make(), asked);
+    }
+
+    /** A change is heard by a piece that was asked before it as by one that was not. */
+    void heard(String what, Maker maker, On change) {
+        KeyWalks fresh = maker.make();
+        change.answer(fresh);
+        KeyWalks asked = asked(maker);
+        change.answer(asked);
+        alike(what + ", of one that was asked", fresh, asked);
+    }
+
+    private static KeyWalks asked(Maker maker) {
+        KeyWalks x = maker.make();
+        x.least();
+        Check.told(() -> x.through(0, 0));
+        return x;
     }
 
     /** The two objects are used up. */

@@ -14,30 +14,42 @@ public final class BruteForceTest {
 
     public static void main(String[] args) {
         for (int run = 0; run < 120; run++) {
-            compare("run " + run + ":", somePiece(1 + run % 3), 1 + run % 3);
+            KeyWalks x = new KeyWalks();
+            Model m = new Model();
+            fill(x, m, 1 + run % 3);
+            compare("run " + run + ":", x, m, 1 + run % 3);
         }
         check.end();
     }
 
-    private static KeyWalks somePiece(int slices) {
-        KeyWalks x = new KeyWalks();
+    /** The same piece twice: an object has too few calls to be asked for all turns and costs besides. */
+    private static void fill(KeyWalks x, Model m, int slices) {
         int heavy = below(3) == 0 ? 200 : 6;
         for (int s = 0; s < slices; s++) {
+            m.slice();
             x.slice();
             for (int notes = below(5); notes > 0; notes--) {
-                Check.told(() -> x.note(x.of(0) - 1, below(12), 1 + below(heavy)));
+                int slice = s;
+                int pitch = below(12);
+                int weight = 1 + below(heavy);
+                check.due("note", Check.told(() -> m.note(slice, pitch, weight)), () -> x.note(slice, pitch, weight));
             }
         }
         if (below(2) == 0) {
-            x.costs(below(8), below(4), below(4));
+            int base = below(8);
+            int by = below(4);
+            int over = below(4);
+            check.due("costs", m.costs(base, by, over), () -> x.costs(base, by, over));
         }
         for (int changes = below(4); changes > 0; changes--) {
-            x.profile(below(2), below(12), below(6));
+            int mode = below(2);
+            int step = below(12);
+            int number = below(6);
+            check.due("profile", m.profile(mode, step, number), () -> x.profile(mode, step, number));
         }
-        return x;
     }
 
-    private static void compare(String when, KeyWalks x, int n) {
+    private static void compare(String when, KeyWalks x, Model m, int n) {
         int all = (int) Math.pow(24, n);
         long[][] through = new long[n][24];
         for (long[] row : through) {
@@ -49,10 +61,10 @@ public final class BruteForceTest {
         int[][] costs = new int[n][24];
         for (int key = 0; key < 24; key++) {
             for (int to = 0; to < 24; to++) {
-                turns[key][to] = x.turn(key, to);
+                turns[key][to] = m.turn(key, to);
             }
             for (int s = 0; s < n; s++) {
-                costs[s][key] = x.cost(s, key);
+                costs[s][key] = m.cost(s, key);
             }
         }
         for (int number = 0; number < all; number++) {

@@ -75,6 +75,7 @@ public final class ChangesBoundsTest {
         x.least();
         x.clear();
         bounds.alike("two slices, cleared", new KeyWalks(), x);
+        bounds.heard("clear and a slice", Pieces::two, y -> y.clear() + y.slice());
         KeyWalks empty = new KeyWalks();
         empty.clear();
         bounds.alike("a new one, cleared", new KeyWalks(), empty);
@@ -114,6 +115,8 @@ public final class ChangesBoundsTest {
         check.due("and so is its scale", false, () -> x.pivot(0, 0, 0));
         x.profile(1, 11, 99);
         check.due("the last step of the last mode is heard", 19800, () -> x.fit(0, 13));
+        bounds.heard("the greatest number", Pieces::two, y -> y.profile(0, 5, 99));
+        bounds.heard("the least number", Pieces::two, y -> y.profile(1, 0, 0));
     }
 
     private static void whatItWas() {
@@ -152,6 +155,8 @@ public final class ChangesBoundsTest {
         check.due("BY of 1000 is heard", 6000, () -> x.turn(0, 15));
         x.costs(0, 0, 1000);
         check.due("OVER of 1000 is heard", 1000, () -> x.turn(0, 15));
+        bounds.heard("all 0", Pieces::two, y -> y.costs(0, 0, 0));
+        bounds.heard("all 1000", Pieces::two, y -> y.costs(1000, 1000, 1000));
     }
 
     private static void howManyOthers() {
@@ -188,6 +193,9 @@ public final class ChangesBoundsTest {
         check.due("slice behind a drop", 39, () -> x.slice());
         x.clear();
         check.due("slice behind a clear", 0, () -> x.slice());
+        bounds.heard("the first one", KeyWalks::new, y -> y.slice());
+        bounds.heard("the third one", Pieces::two, y -> y.slice());
+        bounds.heard("the last one", () -> Pieces.silent(39), y -> y.slice());
     }
 
     private static void sliceRefuses() {
@@ -214,6 +222,9 @@ public final class ChangesBoundsTest {
         x.note(0, 1, 200);
         // Pitch 0 is step 11 above the tonic 1.
         check.due("200 is heard", 200 * 5 + 3, () -> x.fit(0, 1));
+        bounds.heard("1", Pieces::two, y -> y.note(0, 0, 1));
+        bounds.heard("200", Pieces::two, y -> y.note(1, 6, 200));
+        bounds.heard("200 in the last of forty", Pieces::full, y -> y.note(39, 0, 200));
     }
 
     private static void howMuchThen() {
@@ -291,6 +302,8 @@ public final class ChangesBoundsTest {
         check.due("the only one", 0, () -> one.least());
         check.due("BASE is left", 11, () -> one.of(1));
         check.due("a number is left", 4, () -> one.profile(1, 10, 4));
+        bounds.heard("one of two", Pieces::two, y -> y.drop());
+        bounds.heard("one of forty", Pieces::full, y -> y.drop());
     }
 
     private static void howManyLeft() {

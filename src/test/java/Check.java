@@ -27,7 +27,7 @@ final class Check {
         ahead = "";
     }
 
-    /** The answer as a text; an exception by its exact class, so that one of the machine's own is never taken for it. */
+    /** The answer as a text; an exception by its exact class, so that the machine's own are never taken for it. */
     static String told(Call call) {
         try {
             return String.valueOf(call.answer());

@@ -112,7 +112,8 @@ public final class ModelTest {
                 check.due(when + " turn", Check.told(() -> m.turn(one, other)), () -> x.turn(one, other));
                 break;
             case 3:
-                check.due(when + " pivot", Check.told(() -> m.pivot(slice, one, other)), () -> x.pivot(slice, one, other));
+                String pivot = Check.told(() -> m.pivot(slice, one, other));
+                check.due(when + " pivot", pivot, () -> x.pivot(slice, one, other));
                 break;
             case 4:
                 check.due(when + " whole", Check.told(() -> m.whole(slice, last)), () -> x.whole(slice, last));

@@ -53,6 +53,12 @@ final class Pieces {
         return row;
     }
 
+    /** The chord on a key's own tonic, which at first that key alone fits best: with 4 * 5 + 2 * 3 + 2 * 3. */
+    static String chord(int key) {
+        int third = key < 12 ? 4 : 3;
+        return key % 12 + ":4 " + (key + third) % 12 + ":2 " + (key + 7) % 12 + ":2";
+    }
+
     /** Slices that only one key each fits best, heavy enough to be worth the turns. */
     static KeyWalks fromCToFSharp() {
         String c = "0:50 2:20 4:40 5:20 7:40 9:20 11:20";

@@ -191,10 +191,8 @@ public final class TermsBoundsTest {
 
     private static void greatestFit() {
         KeyWalks x = new KeyWalks();
-        // The chord on a key's own tonic fits that key alone best: 4 * 5 + 2 * 3 + 2 * 3.
         for (int key = 0; key < 24; key++) {
-            int third = key < 12 ? 4 : 3;
-            Pieces.add(x, key % 12 + ":4 " + (key + third) % 12 + ":2 " + (key + 7) % 12 + ":2");
+            Pieces.add(x, Pieces.chord(key));
         }
         for (int key = 0; key < 24; key++) {
             int at = key;
@@ -336,6 +334,24 @@ public final class TermsBoundsTest {
         // Six best walks: another key than that of the first one costs as much.
         check.due("another best walk has another key", 0, () -> Pieces.of("0:1", "6:1").sure(1));
         check.arithmetic("another key is for nothing", () -> Pieces.of("0:1").sure(0));
+        for (int key = 0; key < 24; key++) {
+            KeyWalks x = onlyNext(key);
+            check.due("key " + key + " alone is the next", 40, () -> x.sure(1));
+        }
+    }
+
+    /**
+     * Slice 0 binds the walk to another key, in which slice 1 costs 297; its own key is a turn of 500 away, and all
+     * others cost 99 more: 100 * 203 / 500.
+     */
+    private static KeyWalks onlyNext(int key) {
+        KeyWalks x = new KeyWalks();
+        Pieces.profiles(x, Pieces.numbers(0, 99, 0, 1, 3), Pieces.numbers(0, 99, 0, 2, 3));
+        x.costs(500, 0, 0);
+        int far = key + 6;
+        Pieces.add(x, far % 12 + ":200 " + (far + 1) % 12 + ":200 " + (far + 3) % 12 + ":200");
+        Pieces.add(x, key % 12 + ":1 " + (key + (key < 12 ? 1 : 2)) % 12 + ":1 " + (key + 3) % 12 + ":1");
+        return x;
     }
 
     private static void noSuchPitch() {
@@ -346,7 +362,7 @@ public final class TermsBoundsTest {
         SliceCalls.all().forEach((what, call) -> {
             bounds.range(what, 0, 1, Pieces::two, call);
             bounds.range(what, 0, 39, () -> Pieces.forthAndBack(40), call);
-            bounds.noneOf(what + " without slices:", KeyWalks::new, call, Integer.MIN_VALUE, -1, 0, 1, Integer.MAX_VALUE);
+            bounds.noneOf(what + " without slices:", KeyWalks::new, call, -1, 0, 1);
         });
         bounds.range("whole from slice", 0, 1, Pieces::two, (x, s) -> x.whole(s, 1));
         bounds.range("whole to slice", 0, 1, Pieces::two, (x, s) -> x.whole(0, s));

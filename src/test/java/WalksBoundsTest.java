@@ -23,6 +23,7 @@ public final class WalksBoundsTest {
 
     private static void leastAndKey() {
         check.sentence("Promise 11", "THE LEAST", WalksBoundsTest::least);
+        check.sentence("Promise 11", "the least COST of all WALKS", WalksBoundsTest::leastOfAll);
         check.sentence("Promise 11", "(without SLICES 0)", WalksBoundsTest::leastWithoutSlices);
         check.sentence("Promise 12", "The KEY of a SLICE in THE FIRST", WalksBoundsTest::key);
         check.sentence("Promise 12", "IllegalArgument", WalksBoundsTest::keyRefuses);
@@ -102,6 +103,26 @@ public final class WalksBoundsTest {
         check.due("turns of 1", 39, () -> dearest.least());
         dearest.drop();
         check.due("turns of 1 in 39 slices", 38, () -> dearest.least());
+    }
+
+    /** No key is left out, neither of the first slice nor of the last. */
+    private static void leastOfAll() {
+        for (int key = 0; key < 24; key++) {
+            String own = Pieces.chord(key);
+            KeyWalks one = Pieces.of(own);
+            int due = key;
+            check.due("one slice in key " + key + ", least", 0, () -> one.least());
+            check.due("one slice in key " + key + ", key", due, () -> one.key(0));
+            check.due("one slice in key " + key + ", count", 1L, () -> one.count());
+            // Two turns of 1 are cheaper than what the chord of another key costs.
+            KeyWalks three = Pieces.of(own, Pieces.chord((key + 1) % 24), own);
+            three.costs(1, 0, 0);
+            check.due("three slices from key " + key + ", least", 2, () -> three.least());
+            check.due("three slices from key " + key + ", first", due, () -> three.key(0));
+            check.due("three slices from key " + key + ", second", (due + 1) % 24, () -> three.key(1));
+            check.due("three slices from key " + key + ", last", due, () -> three.key(2));
+            check.due("three slices from key " + key + ", count", 1L, () -> three.count());
+        }
     }
 
     private static void leastWithoutSlices() {
@@ -204,7 +225,8 @@ public final class WalksBoundsTest {
         for (int s = 13; s >= 0; s--) {
             int at = s;
             int best = 24 - JUST_ABOVE[s];
-            check.due("the last i of some more, slice " + s, JUST_ABOVE[s] + rest % best, () -> above.pick(MOST - 1, at));
+            long due = JUST_ABOVE[s] + rest % best;
+            check.due("the last i of some more, slice " + s, due, () -> above.pick(MOST - 1, at));
             rest /= best;
         }
         for (long i : new long[] {Long.MIN_VALUE, -MOST, -1, MOST, MOST + 1, Long.MAX_VALUE}) {
@@ -316,7 +338,8 @@ public final class WalksBoundsTest {
         check.due("100001 more, slack 100000", 0xfff, () -> above.near(0, 100000));
         // The least itself is not 0 here: the slack goes on top of it.
         KeyWalks six = Pieces.of("0:1", "6:1");
-        check.due("a least of 4, slack 0", 1 << 1 | 1 << 7 | 1 << 13 | 1 << 16 | 1 << 19 | 1 << 22, () -> six.near(0, 0));
+        int keys = 1 << 1 | 1 << 7 | 1 << 13 | 1 << 16 | 1 << 19 | 1 << 22;
+        check.due("a least of 4, slack 0", keys, () -> six.near(0, 0));
     }
 
     private static void slackRange() {
